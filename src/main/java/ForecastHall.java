@@ -62,10 +62,10 @@ public final class ForecastHall {
         reader = new Reader();
         now = new Setting();
         stack = new Setting[] {new Setting(), new Setting()};
-        rightBoard = new Board(grid, MOST_CELLS, false);
-        hallBoard = new Board(grid, MOST_CELLS, true);
-        otherBoard = new Board(grid, MOST_CELLS, true);
-        smallBoard = new Board(smallGrid, MOST_SMALL_CELLS, false);
+        rightBoard = new Board(MOST_CELLS, false);
+        hallBoard = new Board(MOST_CELLS, true);
+        otherBoard = new Board(MOST_CELLS, true);
+        smallBoard = new Board(MOST_SMALL_CELLS, false);
         marks = new Marks();
         checks = new Checks();
         crew = new Crew();
@@ -199,7 +199,7 @@ public final class ForecastHall {
         Board board = reckoned(right, step);
         long total = 0;
         for (int y = 0; y < grid.high; y++) {
-            total += board.rowSum(step, letter, y);
+            total += board.rowSum(grid, step, letter, y);
         }
         return total;
     }
@@ -295,7 +295,7 @@ public final class ForecastHall {
         Board hall = reckoned(false, step);
         int otherwise = 0;
         for (int letter = 0; letter < LETTERS; letter++) {
-            if (hall.made(now, step, cell, letter) != hall.number(step, cell, letter)) {
+            if (hall.made(grid, now, step, cell, letter) != hall.number(step, cell, letter)) {
                 otherwise |= 1 << letter;
             }
         }
@@ -317,7 +317,7 @@ public final class ForecastHall {
         }
         Board hall = reckoned(false, step);
         for (int cell = 0; cell < grid.cells; cell++) {
-            if (hall.made(now, step, cell, letter) != checks.judged[cell]) {
+            if (hall.made(grid, now, step, cell, letter) != checks.judged[cell]) {
                 return cell;
             }
         }
@@ -498,7 +498,7 @@ public final class ForecastHall {
 
     private Board reckoned(boolean right, int step) {
         Board board = right ? rightBoard : hallBoard;
-        board.reach(now, step);
+        board.reach(grid, now, step);
         return board;
     }
 
@@ -509,8 +509,8 @@ public final class ForecastHall {
             otherBoard.without = slip;
             otherBoard.restart();
         }
-        otherBoard.reach(now, step);
-        hallBoard.reach(now, step);
+        otherBoard.reach(grid, now, step);
+        hallBoard.reach(grid, now, step);
     }
 
     private int otherwiseUpTo(int last) {
@@ -547,7 +547,7 @@ public final class ForecastHall {
     private void reckonSmall(int step) {
         if (smallBoard.done < 0) {
             smallGrid.shape(grid.wide / 2, grid.high / 2, now.edge);
-            rightBoard.reach(now, 0);
+            rightBoard.reach(grid, now, 0);
             for (int cell = 0; cell < smallGrid.cells; cell++) {
                 for (int letter = 0; letter < LETTERS; letter++) {
                     smallBoard.set(0, cell, letter, meanOfFour(0, cell, letter));
@@ -555,8 +555,8 @@ public final class ForecastHall {
             }
             smallBoard.done = 0;
         }
-        smallBoard.reach(now, step);
-        rightBoard.reach(now, step);
+        smallBoard.reach(smallGrid, now, step);
+        rightBoard.reach(grid, now, step);
     }
 
     private int meanOfFour(int step, int smallCell, int letter) {
@@ -1022,15 +1022,13 @@ public final class ForecastHall {
 
     /** Numbers of cells for all steps; they are reckoned as far as they are wanted. */
     private static final class Board {
-        private final Grid grid;
         private final int room;
         private final boolean withSlips;
         private final int[] numbers;
         int without = -1;
         int done = -1;
 
-        Board(Grid ofGrid, int mostCells, boolean slips) {
-            grid = ofGrid;
+        Board(int mostCells, boolean slips) {
             room = Math.max(1, Math.min(MOST_CELLS, mostCells));
             withSlips = slips;
             numbers = new int[(LAST_STEP + 1) * room * LETTERS];
@@ -1052,16 +1050,16 @@ public final class ForecastHall {
             }
         }
 
-        void reach(Setting setting, int step) {
+        void reach(Grid grid, Setting setting, int step) {
             if (done < 0) {
-                takeFirsts(setting);
+                takeFirsts(grid, setting);
                 done = 0;
             }
             for (int next = done + 1; next <= step && next <= LAST_STEP; next++) {
                 for (int cell = 0; cell < grid.cells; cell++) {
                     for (int turn = 0; turn < LETTERS; turn++) {
                         int letter = setting.plan.order[turn];
-                        int number = made(setting, next, cell, letter);
+                        int number = made(grid, setting, next, cell, letter);
                         if (withSlips) {
                             number = setting.slipped(number, next, cell, letter, without);
                         }
@@ -1072,7 +1070,7 @@ public final class ForecastHall {
             }
         }
 
-        private void takeFirsts(Setting setting) {
+        private void takeFirsts(Grid grid, Setting setting) {
             for (int cell = 0; cell < grid.cells; cell++) {
                 for (int letter = 0; letter < LETTERS; letter++) {
                     boolean gap = setting.isGap(cell, letter);
@@ -1081,7 +1079,7 @@ public final class ForecastHall {
             }
         }
 
-        int made(Setting setting, int step, int cell, int letter) {
+        int made(Grid grid, Setting setting, int step, int cell, int letter) {
             Plan plan = setting.plan;
             if (plan.place[letter] < 0) {
                 return number(step - 1, cell, letter);
@@ -1089,7 +1087,7 @@ public final class ForecastHall {
             long total = 0;
             int end = plan.end(letter);
             for (int term = plan.start[letter]; term < end; term++) {
-                long one = termMade(setting, term, step, cell);
+                long one = termMade(grid, setting, term, step, cell);
                 if (one == VOID_TERM) {
                     return VOID;
                 }
@@ -1099,14 +1097,14 @@ public final class ForecastHall {
         }
 
         /** The product is looked at ahead of the factor: with it, it could be too large for a long. */
-        private long termMade(Setting setting, int term, int step, int cell) {
+        private long termMade(Grid grid, Setting setting, int term, int step, int cell) {
             Plan plan = setting.plan;
-            long product = named(setting, plan.names[term], step, cell);
+            long product = named(grid, setting, plan.names[term], step, cell);
             if (product == VOID) {
                 return VOID_TERM;
             }
             if (plan.seconds[term] != NO_NAME) {
-                long second = named(setting, plan.seconds[term], step, cell);
+                long second = named(grid, setting, plan.seconds[term], step, cell);
                 if (second == VOID) {
                     return VOID_TERM;
                 }
@@ -1119,7 +1117,7 @@ public final class ForecastHall {
             return Math.abs(product) > MOST_SUM ? VOID_TERM : product;
         }
 
-        private int named(Setting setting, int name, int step, int cell) {
+        private int named(Grid grid, Setting setting, int name, int step, int cell) {
             int letter = Plan.letterOf(name);
             int near = grid.beside(cell, Plan.sideOf(name));
             if (near == RIM_SIDE) {
@@ -1128,7 +1126,7 @@ public final class ForecastHall {
             return number(Plan.isNow(name) ? step : step - 1, near, letter);
         }
 
-        long rowSum(int step, int letter, int y) {
+        long rowSum(Grid grid, int step, int letter, int y) {
             long total = 0;
             for (int x = 0; x < grid.wide; x++) {
                 total += counted(step, grid.wide * y + x, letter);
@@ -1136,7 +1134,7 @@ public final class ForecastHall {
             return total;
         }
 
-        long columnSum(int step, int letter, int x) {
+        long columnSum(Grid grid, int step, int letter, int x) {
             long total = 0;
             for (int y = 0; y < grid.high; y++) {
                 total += counted(step, grid.wide * y + x, letter);
@@ -1280,12 +1278,12 @@ public final class ForecastHall {
         int failing(Board hall, Grid grid) {
             int failing = 0;
             for (int y = 0; y < grid.high && y < MOST_SIDE; y++) {
-                if (rows[y] != UNTOLD && rows[y] != hall.rowSum(step, letter, y)) {
+                if (rows[y] != UNTOLD && rows[y] != hall.rowSum(grid, step, letter, y)) {
                     failing |= 1 << y;
                 }
             }
             for (int x = 0; x < grid.wide && x < MOST_SIDE; x++) {
-                if (columns[x] != UNTOLD && columns[x] != hall.columnSum(step, letter, x)) {
+                if (columns[x] != UNTOLD && columns[x] != hall.columnSum(grid, step, letter, x)) {
                     failing |= 1 << (MOST_SIDE + x);
                 }
             }
@@ -1300,11 +1298,11 @@ public final class ForecastHall {
         int fewestCells(Board hall, Grid grid) {
             int lacking = 0;
             for (int y = 0; y < grid.high && y < MOST_SIDE; y++) {
-                lacking = addLack(lacking, rows[y] - hall.rowSum(step, letter, y));
+                lacking = addLack(lacking, rows[y] - hall.rowSum(grid, step, letter, y));
             }
             int lackingRows = lacking;
             for (int x = 0; x < grid.wide && x < MOST_SIDE; x++) {
-                lacking = addLack(lacking, hall.columnSum(step, letter, x) - columns[x]);
+                lacking = addLack(lacking, hall.columnSum(grid, step, letter, x) - columns[x]);
             }
             return lacking - mostParts(lacking, (1 << lackingRows) - 1);
         }

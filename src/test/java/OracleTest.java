@@ -138,7 +138,7 @@ public final class OracleTest {
 
   private void changeNumbers() {
     switch (random.nextInt(12)) {
-      case 0: if (chance(15)) { anySky(); anyFirsts(); } break;
+      case 0: if (chance(15)) { anySky(); if (chance(70)) anyFirsts(); } break;
       case 1: { int what = near(0, 1), v = near(0, what == 0 ? 2 : 9); due("rule(" + what + "," + v + ")", x.rule(what, v), o.rule(what, v)); break; }
       case 2: { int l = near(0, 3), v = chance(50) ? in(-50, 50) : near(-1000000, 1000000); due("rim(" + l + "," + v + ")", x.rim(l, v), o.rim(l, v)); break; }
       case 3: if (chance(30)) anyText(); break;

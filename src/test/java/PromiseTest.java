@@ -82,6 +82,11 @@ public final class PromiseTest {
     due(x.fails(), -2); due(x.back(), -2); due(x.mend(), -2); due(x.give(3, 0), 0);
     // not gone: text, plan, rules, rims, paces, the judged row
     due(x.count(1), 4); due(x.count(2), 1); due(x.rule(0, 2), 2); due(x.rule(1, 4), 4); due(x.rim(1, 9), 9); due(x.pace(2, 7), 7); due(x.put(0, 11), 11);
+    // numbers, sums and minutes are new at once
+    fresh();
+    x.sky(2, 4); firsts(0, 1, 2, 3, 4, 5, 6, 7, 8); x.give(0, 1); x.slip(1, 0, 0, 4); due(x.sum(false, 1, 0), 40); due(x.when(1, -1), 35); due(x.marked(1, 0, 0), 0); due(x.given(1, 1, -1), 40);
+    x.sky(2, 3); due(x.sum(false, 1, 0), 0); due(x.sum(true, 1, 0), 0); due(x.at(false, 0, 1, 0), 0); due(x.when(1, -1), 30); due(x.marked(1, 0, 0), 1); due(x.given(1, 1, -1), 30); due(x.when(1, 0), 5);
+    x.sky(2, 4); firsts(0, 0, 0, 0, 0, 0, 0, 7, 8); x.tell(0, 0, true, 0, 7); due(x.fails(), 0); x.sky(2, 3); x.tell(0, 0, true, 0, 0); due(x.fails(), 0); due(x.give(0, 0), 0);
     // cells stand by rows of W
     x.sky(4, 2); x.rule(0, 0); plan("a=as;"); x.first(5, 0, 3);
     due(x.at(true, 1, 1, 0), 3); due(x.at(true, 0, 4, 0), 3);
@@ -342,8 +347,9 @@ public final class PromiseTest {
     due(x.at(true, 1, 0, 0), 1000000000); due(x.at(false, 1, 0, 0), VOID); due(x.at(false, 1, 1, 0), 1000000000); due(x.at(false, 1, 2, 0), VOID); due(x.at(true, 1, 2, 0), -1000000000);
     due(x.at(false, 1, 8, 0), VOID); due(x.at(false, 1, 3, 0), -2);
     fresh();
-    plan("a=a.b;"); firsts(0, 1000000); firsts(1, 1000);
+    plan("a=a.b;"); firsts(0, 1000000, -1000000); firsts(1, 1000, 1000);
     x.slip(1, 0, 0, -1); x.slip(1, 0, 0, 1); due(x.at(false, 1, 0, 0), 1000000000);
+    x.slip(1, 1, 0, 1); x.slip(1, 1, 0, -1); due(x.at(false, 1, 1, 0), -1000000000);
   }
 
   private static void mend() {
@@ -369,6 +375,9 @@ public final class PromiseTest {
     fresh();
     plan("a=a/10;"); firsts(0, 0, 0, 0, 0, 0, 0, 0, 0, 0); x.slip(1, 0, 0, 5); x.slip(1, 0, 0, 5);
     due(x.spread(0, 2, 0), 2); due(x.spread(1, 2, 0), 2); due(x.spread(0, 3, 2), 1); x.mend(); due(x.spread(0, 2, 0), 1); due(x.spread(1, 2, 0), -2);
+    // healed at once: step 1 is the last
+    fresh();
+    plan("a=b;"); x.slip(1, 0, 0, 5); due(x.spread(0, 12, 1), 1); due(x.spread(0, 12, 0), 1); due(x.spread(0, 1, 2), 0); due(x.spread(0, 2, 2), 1);
     // two that make up for one another; a number that is VOID either way is not otherwise
     fresh();
     plan("a=b-c;d=b.b;"); firsts(1, 1000000); firsts(2, 0); firsts(0, 0); x.slip(1, 0, 1, 5); x.slip(1, 0, 2, 5); x.slip(2, 0, 3, 1);
@@ -518,6 +527,13 @@ public final class PromiseTest {
     int[][] want = {{5, 7, 1, 2}, {15, 15, 9, 12}, {23, 25, 19, 20}};
     for (int s = 1; s <= 3; s++) for (int c = 0; c < 4; c++) due(x.when(s, c), want[s - 1][c]);
     due(x.when(3, -1), 25); x.rule(1, 0); due(x.when(2, 0), 12); due(x.when(2, 2), 6);
+    // notes come from each of the four sides
+    int[] sides = {1, 3, 5, 7};
+    for (int side : sides) {
+      fresh();
+      x.rule(0, 2); x.pace(0, 1); x.pace(1, 20); x.pace(2, 1); x.give(side, 1); x.give(4, 2);
+      due(x.when(1, side), 20); due(x.when(1, 4), 1); due(x.when(2, 4), 22);
+    }
     // beyond an edge of 1 is the cell itself, of 2 nobody: in a row of six the ends do not wait for one another
     fresh();
     x.sky(6, 2); x.give(0, 1); x.give(5, 2); x.pace(2, 20); x.pace(1, 1);
@@ -549,6 +565,9 @@ public final class PromiseTest {
     due(x.given(2, 0, -1), 0); due(x.given(2, 0, 4), 0);
     // whose the cells are now does not count and does not change; paces do, of those who share alone
     x.give(0, 5); x.pace(5, 1); due(x.given(2, 1, -1), 8); due(x.give(0, 5), 5); x.pace(1, 5); due(x.given(3, 1, -1), 15); x.pace(2, 20); due(x.given(3, 1, -1), 20); due(x.given(3, 1, 8), 2); due(x.given(3, 1, 7), 1);
+    // cell 0 too goes to the quicker one
+    fresh();
+    x.sky(2, 2); x.pace(0, 20); x.pace(1, 1); due(x.given(2, 3, -1), 12); for (int c = 0; c < 4; c++) due(x.given(2, 3, c), 1);
     // a long walk: better all by one
     fresh();
     x.sky(2, 2); x.pace(0, 1); x.pace(1, 1); x.rule(1, 9); due(x.given(2, 1, -1), 2); due(x.given(2, 2, -1), 8); due(x.given(2, 2, 3), 0); x.rule(1, 0); due(x.given(2, 2, -1), 4);
@@ -580,7 +599,7 @@ public final class PromiseTest {
     x.slip(1, 0, 0, 1000000); due(x.coarse(1, 0, 19), 0);
     fresh();
     x.sky(2, 2); x.first(0, 0, -1); x.first(1, 0, -2); x.first(2, 0, -2); plan("b=a;a=a;");
-    due(x.at(true, 0, 3, 0), -2); due(x.coarse(1, 1, 0), 0); x.first(3, 1, 0); plan("a=-a;"); due(x.coarse(1, 0, 0), 1); due(x.coarse(1, 0, 1), 0);
+    x.slip(1, 0, 0, 9); x.slip(1, 0, 1, 9); due(x.at(true, 0, 3, 0), -2); due(x.coarse(1, 1, 0), 0); x.first(3, 1, 0); plan("a=-a;"); due(x.coarse(1, 0, 0), 1); due(x.coarse(1, 0, 1), 0);
     // VOID on one side or on both is off
     fresh();
     x.sky(4, 2); plan("a=a.a;"); firsts(0, 40000, 0, 1, 1, 0, 0, 1, 1); due(x.coarse(1, 0, 1000000), 1); firsts(0, 40000, 40000, 1, 1, 40000, 40000, 1, 1); due(x.coarse(1, 0, 1000000), 1); due(x.coarse(12, 0, 0), 1);
@@ -594,7 +613,12 @@ public final class PromiseTest {
     due(x.keep(), 1); due(x.keep(), 2); due(x.keep(), -3); due(x.count(5), 2); due(x.back(), 1); due(x.keep(), 2); due(x.keep(), -3);
     // what is kept does not change with what comes later
     fresh();
-    plan("a=a+b;"); x.first(0, 0, 1); x.first(0, 1, 2); x.slip(1, 0, 0, 100); x.keep(); plan("a=b;"); x.first(0, 0, 50); x.mend(); x.slip(2, 0, 0, 7); due(x.at(false, 2, 0, 0), 9); x.back(); due(x.at(false, 2, 0, 0), 105);
+    plan("a=a+b;"); x.first(0, 0, 1); x.first(0, 1, 2); x.slip(1, 0, 0, 100); x.keep(); plan("a=b;"); x.first(0, 0, 50); x.mend(); x.slip(2, 0, 0, 7); due(x.at(false, 2, 0, 0), 9); x.back(); due(x.at(false, 2, 0, 0), 105); due(x.at(false, 1, 0, 0), 103);
+    // a slip comes back with its step, cell, letter and amount
+    fresh();
+    x.slip(2, 1, 3, 10); x.slip(4, 5, 1, 20); x.keep(); x.mend(); x.mend(); x.slip(1, 2, 0, 30); x.slip(3, 6, 2, 40); x.slip(1, 1, 1, 1); x.back();
+    due(x.count(4), 2); due(x.at(false, 1, 1, 3), 0); due(x.at(false, 2, 1, 3), 10); due(x.at(false, 3, 5, 1), 0); due(x.at(false, 4, 5, 1), 20);
+    for (int l = 0; l < 4; l++) due(x.sum(false, 12, l), new int[] {0, 20, 0, 10}[l]);
   }
 
   private static void back() {
