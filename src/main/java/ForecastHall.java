@@ -822,10 +822,10 @@ public final class ForecastHall {
                 return refuse(here);
             }
             plan.start[letter] = plan.used;
-            if (!readTerm()) {
-                return false;
-            }
-            while (here < length && (ahead() == '+' || ahead() == '-')) {
+            for (int term = 0; term < MOST_TERMS; term++) {
+                if (term > 0 && ahead() != '+' && ahead() != '-') {
+                    break;
+                }
                 if (!readTerm()) {
                     return false;
                 }
