@@ -567,6 +567,9 @@ public final class BoundaryTest {
         fresh(); plan("a=a/10;"); all(0, 0); x.slip(1, 0, 0, 9); dueSpread(0, 12, 1, 1, 1); x.first(0, 0, 10); dueSpread(0, 12, 2, 2, 1);
         x.slip(2, 0, 0, 99); dueSpread(0, 12, 4, 4, 1); dueSpread(1, 12, 3, 4, 1); x.mend(); dueSpread(0, 12, 2, 2, 1); x.slip(2, 0, 0, -2); dueSpread(1, 12, 11, 12, 0);
         plan(""); dueSpread(0, 12, 12, 12, 0); dueSpread(1, 12, 11, 12, 0); plan("a=an;"); x.rule(0, 2); dueSpread(0, 12, 3, 3, 1);
+        fresh(); x.slip(1, 0, 0, 5); dueSpread(0, 12, 12, 12, 0); x.first(1, 0, 3); dueSpread(0, 12, 12, 12, 0); x.slip(1, 2, 0, 1); dueSpread(0, 12, 12, 12, 0); x.mend(); dueSpread(0, 12, 12, 12, 0);
+        // of the cells that there are, not of those of a larger sky ahead
+        for (int c = 4; c < 36; c++) { fresh(6, 6); x.slip(1, c, 0, 5); dueSpread(0, 12, 12, 12, 0); x.sky(2, c % 2 + 2); x.slip(2, 0, 0, 1); dueSpread(0, 12, 11, 12, 0); }
         // each of twelve by its number
         fresh(); for (int i = 0; i < 12; i++) x.slip(i + 1, 0, 0, 1); for (int i = 0; i < 12; i++) dueSpread(i, 12, 12 - i, 12, 0);
         due(x.spread(12, 12, 0), NO); x.mend(); due(x.spread(11, 12, 0), NO); due(x.spread(10, 12, 0), 2);

@@ -1,3 +1,4 @@
+import java.lang.reflect.Array;
 import java.lang.reflect.Field;
 import java.lang.reflect.Method;
 import java.lang.reflect.Modifier;
@@ -5,6 +6,7 @@ import java.nio.file.Files;
 import java.nio.file.Path;
 import java.util.ArrayList;
 import java.util.Arrays;
+import java.util.IdentityHashMap;
 import java.util.List;
 import java.util.Set;
 import java.util.TreeSet;
@@ -33,6 +35,7 @@ public final class LanguageTest {
     classes();
     words(bare(text));
     methods(bare(text));
+    room();
     System.out.println("language: " + passed + " passed, " + failed + " failed");
     if (failed > 0) System.exit(1);
   }
@@ -112,6 +115,27 @@ public final class LanguageTest {
       int deep = deep(call, names, bodies, new ArrayList<>());
       holds(11, call + " goes at most eight calls deep: " + deep, deep <= 8);
     }
+  }
+  /** What one object holds: some 500 of them still find room in one run. */
+  private static void room() throws Exception {
+    IdentityHashMap<Object, Boolean> seen = new IdentityHashMap<>();
+    long parts = parts(new ForecastHall(), seen);
+    holds(12, "one object is made of few others: " + seen.size(), seen.size() <= 120);
+    holds(12, "one object has few fields and elements: " + parts, parts <= 14500);
+  }
+  private static long parts(Object of, IdentityHashMap<Object, Boolean> seen) throws Exception {
+    if (of == null || seen.put(of, true) != null) return 0;
+    long parts = 0;
+    if (of.getClass().isArray()) {
+      for (int i = 0; i < Array.getLength(of); i++) parts += 1 + (of.getClass().getComponentType().isPrimitive() ? 0 : parts(Array.get(of, i), seen));
+      return parts;
+    }
+    for (Field f : of.getClass().getDeclaredFields()) {
+      if (Modifier.isStatic(f.getModifiers())) continue;
+      f.setAccessible(true);
+      parts += 1 + (f.getType().isPrimitive() ? 0 : parts(f.get(of), seen));
+    }
+    return parts;
   }
   private static int deep(String name, List<String> names, List<String> bodies, List<String> open) {
     if (open.contains(name)) return 99;
