@@ -811,8 +811,32 @@ public final class BoundaryTest {
         dueShare(3, 1, 7, 1, 1, 2, 2, 2, 2, 2, 2, 2);
         // notes that walk long: shared at step 1, by one alone at step 2
         fresh(2, 2); x.pace(0, 1); x.pace(1, 1); x.rule(1, 9); dueShare(2, 1, 2, 0, 0, 1, 1); dueShare(2, 2, 8, 0, 0, 0, 0); x.rule(1, 0); dueShare(2, 2, 4, 0, 0, 1, 1);
+        // against all ways to give, each tried by give and when
+        Random random = new Random(3);
+        for (int turn = 0; turn < 240; turn++) {
+            int q = 1 + turn % 3, w = q < 3 && turn % 2 == 0 ? 3 : 2, n = turn % 4 == 0 ? 12 : 1 + random.nextInt(5);
+            triedGiven(w, q, n, new int[] {1 + random.nextInt(turn % 5 == 0 ? 20 : 4), 1 + random.nextInt(4), 1 + random.nextInt(6)}, random.nextInt(turn % 2 == 0 ? 3 : 10), random.nextInt(3));
+        }
         // new at once with edge, walk, pace and sky
+        fresh(2, 2); x.pace(0, 1); x.pace(1, 1);
         x.rule(1, 1); x.pace(0, 2); due(x.given(2, 1, -1), 3); x.pace(0, 1); due(x.given(2, 1, -1), 2); x.sky(2, 3); due(x.given(2, 1, -1), 3);
+    }
+
+    /** On w by two cells: what given answers is what the best of all ways to give makes, the first of several. */
+    private static void triedGiven(int w, int q, int n, int[] paces, int walk, int edge) {
+        int ways = (int) Math.round(Math.pow(q, 2 * w)), best = Integer.MAX_VALUE, bestWay = 0;
+        for (int turn = 0; turn < 2; turn++) {
+            fresh(w, 2);
+            for (int p = 0; p < 3; p++) x.pace(p, paces[p]);
+            x.rule(1, walk); x.rule(0, edge);
+            for (int way = 0; way < ways && turn == 0; way++) {
+                for (int c = 2 * w - 1, rest = way; c >= 0; c--, rest /= q) x.give(c, rest % q);
+                int last = x.when(n, -1);
+                if (last < best) { best = last; bestWay = way; }
+            }
+        }
+        due(x.given(q, n, -1), best);
+        for (int c = 2 * w - 1, rest = bestWay; c >= 0; c--, rest /= q) due(x.given(q, n, c), rest % q);
     }
 
     private static void known() {
