@@ -884,7 +884,7 @@ public final class ForecastHall {
                 here++;
             }
             value = number;
-            return here > from && !zeroAhead && number <= most ? true : refuse(from);
+            return (here > from && !zeroAhead && number <= most) || refuse(from);
         }
 
         private boolean readName() {
@@ -901,7 +901,7 @@ public final class ForecastHall {
             value = letter | side << 2;
             if (pass('\'')) {
                 value |= 32;
-                return side == 0 && plan.place[letter] >= 0 ? true : refuse(from);
+                return (side == 0 && plan.place[letter] >= 0) || refuse(from);
             }
             return true;
         }
